@@ -1,0 +1,42 @@
+import java.lang.reflect.Field;
+
+/** Reaches into an object, for the states that no run of calls brings about. */
+final class Inside {
+    private Inside() {
+    }
+
+    static void setVolumes(CanalLocks locks, int... volumes) {
+        System.arraycopy(volumes, 0, (int[]) partOf(locks, "water", "volumes"), 0, 5);
+    }
+
+    static void setBasins(CanalLocks locks, int... basins) {
+        System.arraycopy(basins, 0, (int[]) partOf(locks, "fleet", "basins"), 0, basins.length);
+    }
+
+    static void setSpilled(CanalLocks locks, int litres) {
+        try {
+            Object water = valueOf(valueOf(locks, "now"), "water");
+            fieldOf(water, "spilled").setInt(water, litres);
+        } catch (ReflectiveOperationException e) {
+            throw new IllegalStateException(e);
+        }
+    }
+
+    private static Object partOf(CanalLocks locks, String part, String row) {
+        try {
+            return valueOf(valueOf(valueOf(locks, "now"), part), row);
+        } catch (ReflectiveOperationException e) {
+            throw new IllegalStateException(e);
+        }
+    }
+
+    private static Object valueOf(Object owner, String name) throws ReflectiveOperationException {
+        return fieldOf(owner, name).get(owner);
+    }
+
+    private static Field fieldOf(Object owner, String name) throws ReflectiveOperationException {
+        Field field = owner.getClass().getDeclaredField(name);
+        field.setAccessible(true);
+        return field;
+    }
+}
