@@ -595,8 +595,8 @@ public final class CanalLocks {
         int rankOfBasin(int basin) {
             int rank = 0;
             for (int other = 0; other < BASINS; other++) {
-                int difference = difference(other, basin);
-                if (difference > 0 || difference == 0 && other < basin) {
+                int lead = difference(other, basin);
+                if (lead > 0 || lead == 0 && other < basin) {
                     rank++;
                 }
             }
@@ -754,7 +754,7 @@ public final class CanalLocks {
             count = other.count;
         }
 
-        void record(char kind, int number) {
+        void note(char kind, int number) {
             kinds[next] = kind;
             numbers[next] = number;
             next = (next + 1) % EVENT_LIMIT;
@@ -891,7 +891,7 @@ public final class CanalLocks {
         private void passWeather() {
             int spilled = water.letRain();
             if (spilled > 0) {
-                events.record('s', spilled);
+                events.note('s', spilled);
             }
             water.letDrain();
         }
@@ -924,9 +924,9 @@ public final class CanalLocks {
             fleet.basins[boat] = fleet.basinAhead(boat);
             if (fleet.hasArrived(boat)) {
                 fleet.left[fleet.colours[boat]]++;
-                events.record('l', fleet.draughts[boat]);
+                events.note('l', fleet.draughts[boat]);
             } else {
-                events.record('p', gate);
+                events.note('p', gate);
             }
         }
     }

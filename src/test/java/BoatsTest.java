@@ -202,48 +202,52 @@ final class BoatsTest {
             }
             Check.same("36: in minute " + minute, leaving, locks.advance(1));
         }
+        // Boats that come after an undo or a restore are told apart as well.
+        CanalLocks again = Check.open();
+        again.addBoat('r', 1, true);
+        again.save();
+        again.addBoat('b', 1, true);
+        again.undo();
+        again.addBoat('g', 1, true);
+        again.addBoat('b', 1, true);
+        Check.same("36: after an undo", "4 5 6", again.minutesUntilLeaving(0) + " "
+                + again.minutesUntilLeaving(1) + " " + again.minutesUntilLeaving(2));
+        again.restore();
+        again.addBoat('b', 1, true);
+        Check.same("36: after a restore", "4 5", again.minutesUntilLeaving(0) + " "
+                + again.minutesUntilLeaving(1));
         CanalLocks shut = new CanalLocks();
         shut.addBoat('r', 1, true);
         Check.failsIdly("36: never", NoSuchElementException.class, shut,
                 () -> shut.minutesUntilLeaving(0));
     }
 
-    /** Basin 4 lies dry and fills by drops, so the boat leaves in a minute that can be told. */
+    /** All lies dry and fills by drops, so the boat leaves late, in a minute that can be told. */
     private static void minutesUntilLeavingLate() {
-        for (int litres = 1; litres <= 2; litres++) {
-            CanalLocks locks = new CanalLocks();
-            Inside.setVolumes(locks, 0, 0, 0, 0, 0);
-            for (int gate = 0; gate < 4; gate++) {
-                locks.openGate(gate);
-            }
-            locks.setRain(litres);
-            locks.addBoat('r', 5, true);
-            int minute = 0;
-            while (minute < 400 && locks.boatCount() == 1) {
-                locks.advance(1);
-                minute++;
-            }
-            Check.holds("36: it left at last", minute > 50 && minute < 400);
-            locks.undo();
-            Check.same("36: the very next minute", 1, locks.minutesUntilLeaving(0));
-            CanalLocks again = new CanalLocks();
-            Inside.setVolumes(again, 0, 0, 0, 0, 0);
-            for (int gate = 0; gate < 4; gate++) {
-                again.openGate(gate);
-            }
-            again.setRain(litres);
-            again.addBoat('r', 5, true);
-            if (minute > 201) {
-                again.advance(minute - 201);
-                Check.failsIdly("36: in 201 minutes", NoSuchElementException.class, again,
-                        () -> again.minutesUntilLeaving(0));
-                again.advance(1);
-            } else if (minute > 200) {
-                again.advance(1);
-            }
-            int due = Math.min(minute, 200);
-            Check.same("36: within 200 minutes", due, again.minutesUntilLeaving(0));
+        CanalLocks locks = new CanalLocks();
+        Inside.setVolumes(locks, 0, 0, 0, 0, 0);
+        for (int gate = 0; gate < 4; gate++) {
+            locks.openGate(gate);
         }
+        locks.setRain(1);
+        locks.addBoat('r', 6, true);
+        locks.save();
+        int minute = 0;
+        while (minute < 400 && locks.boatCount() == 1) {
+            locks.advance(1);
+            minute++;
+        }
+        Check.holds("36: it leaves after more than 201 minutes", minute > 201 && minute < 400);
+        locks.undo();
+        Check.same("36: the very next minute", 1, locks.minutesUntilLeaving(0));
+        locks.restore();
+        locks.advance(minute - 201);
+        Check.failsIdly("36: in 201 minutes", NoSuchElementException.class, locks,
+                () -> locks.minutesUntilLeaving(0));
+        locks.advance(1);
+        Check.same("36: in 200 minutes", 200, locks.minutesUntilLeaving(0));
+        locks.advance(1);
+        Check.same("36: in 199 minutes", 199, locks.minutesUntilLeaving(0));
     }
 
     private static void minutesUntilEqual() {

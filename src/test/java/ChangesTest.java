@@ -359,6 +359,15 @@ final class ChangesTest {
         }
         Check.same("8: the end basins have no limit", 4, ends.boatsIn(0));
         Check.same("8: neither of them", 4, ends.boatsIn(4));
+        for (int way = 0; way < 2; way++) {
+            CanalLocks crowded = Check.open();
+            crowded.addBoat('r', 1, way == 0);
+            crowded.advance(3);
+            for (int boat = 0; boat < 4; boat++) {
+                crowded.addBoat('b', 1, way != 0);
+            }
+            Check.same("8: there is room to leave", 1, crowded.advance(1));
+        }
         // Up: the basins 3, 2 and 1 in turn.
         CanalLocks up = Check.open();
         up.shutGate(2);

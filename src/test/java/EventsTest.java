@@ -168,11 +168,23 @@ final class EventsTest {
             Check.same("44: the accounts agree", locks.totalVolume(), locks.totalVolumeByAccounts());
             Check.holds("44: basin " + basin + " is too full", !locks.isConsistent());
         }
-        CanalLocks negative = new CanalLocks();
-        Inside.setVolumes(negative, 300, 144, 108, 2, -200);
-        Inside.setSpilled(negative, 684 - (300 + 144 + 108 + 2 - 200));
-        Check.holds("44: the amounts do not agree", negative.equalizingAmount(3)
-                == negative.equalizingAmountByLitres(3) || !negative.isConsistent());
+        for (int gate = 0; gate < 4; gate++) {
+            // Less than no water in the lower basin: more than all of the upper one would flow.
+            int[] volumes = {0, 0, 0, 0, 0};
+            volumes[gate] = 2;
+            for (int basin = gate + 1; basin < 5; basin++) {
+                volumes[basin] = -20 * new CanalLocks().area(basin);
+            }
+            CanalLocks locks = new CanalLocks();
+            Inside.setVolumes(locks, volumes);
+            Inside.setSpilled(locks, 684 - locks.totalVolume());
+            Check.same("44: the accounts agree", locks.totalVolume(), locks.totalVolumeByAccounts());
+            for (int other = 0; other < 4; other++) {
+                Check.same("44: amounts of gate " + other, other != gate,
+                        locks.equalizingAmount(other) == locks.equalizingAmountByLitres(other));
+            }
+            Check.holds("44: the amounts of gate " + gate + " do not agree", !locks.isConsistent());
+        }
         for (int basin = 0; basin < 5; basin++) {
             CanalLocks locks = new CanalLocks();
             for (int boat = 0; boat < 3; boat++) {

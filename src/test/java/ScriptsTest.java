@@ -251,6 +251,11 @@ final class ScriptsTest {
         Check.type(locks, "ait 3");
         Check.same("49: one command", 1, locks.runScript());
         Check.same("49: four minutes", 4, locks.time());
+        // What an earlier script has left behind the end is no part of a later one.
+        Check.fails("49: a shorter script", IllegalArgumentException.class, () -> Check.run(locks, "wai"));
+        Check.same("50: it ends there", 3, locks.errorPosition());
+        Check.fails("49: none at all", IllegalArgumentException.class, locks::runScript);
+        Check.same("50: at once", 0, locks.errorPosition());
     }
 
     private static void errorPosition() {
