@@ -216,6 +216,12 @@ final class BoatsTest {
         again.addBoat('b', 1, true);
         Check.same("36: after a restore", "4 5", again.minutesUntilLeaving(0) + " "
                 + again.minutesUntilLeaving(1));
+        CanalLocks typed = Check.open();
+        typed.addBoat('r', 1, true);
+        Check.run(typed, "boat g1 d");
+        typed.addBoat('b', 1, true);
+        Check.same("36: after a script", "4 5 6", typed.minutesUntilLeaving(0) + " "
+                + typed.minutesUntilLeaving(1) + " " + typed.minutesUntilLeaving(2));
         CanalLocks shut = new CanalLocks();
         shut.addBoat('r', 1, true);
         Check.failsIdly("36: never", NoSuchElementException.class, shut,

@@ -8,6 +8,7 @@ final class ScriptsTest {
         outputAt();
         type();
         commands();
+        everyDigit();
         waits();
         noForm();
         failedCommands();
@@ -141,6 +142,26 @@ final class ScriptsTest {
             text += (boat == 0 ? "" : " ") + Check.outputOf(locks, locks.renderBoat(boat));
         }
         return text;
+    }
+
+    private static void everyDigit() {
+        for (int digit = 0; digit <= 9; digit++) {
+            CanalLocks locks = new CanalLocks();
+            Check.run(locks, "rain " + digit + ";drain " + digit);
+            Check.same("49: digit " + digit, digit + " " + digit, locks.rain() + " " + locks.drain());
+            Check.run(locks, "wait 1" + digit + ";wait 1" + digit + digit);
+            Check.same("49: wait with " + digit, 10 + digit + 100 + 11 * digit, locks.time());
+            String gates = "valve " + digit + " 0;open " + digit;
+            Check.fails("49: form of " + gates, IllegalStateException.class,
+                    () -> Check.run(locks, gates));
+            String valve = "valve 0 " + digit + ";shut " + digit;
+            Check.fails("49: form of " + valve, IllegalStateException.class,
+                    () -> Check.run(locks, valve));
+            if (digit > 0) {
+                Check.run(locks, "boat g" + digit + " u");
+                Check.same("49: draught " + digit, digit, locks.draught(0));
+            }
+        }
     }
 
     private static void waits() {
