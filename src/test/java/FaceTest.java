@@ -97,8 +97,8 @@ final class FaceTest {
         Class<?>[] inside = CanalLocks.class.getDeclaredClasses();
         Check.holds("some twelve classes at most", inside.length < 12);
         for (Class<?> type : inside) {
-            Check.holds("private and static " + type.getName(),
-                    Modifier.isPrivate(type.getModifiers()) && Modifier.isStatic(type.getModifiers()));
+            Check.holds("private or package-visible " + type.getName(),
+                    !Modifier.isPublic(type.getModifiers()) && !Modifier.isProtected(type.getModifiers()));
             for (Method method : type.getDeclaredMethods()) {
                 Check.holds("a name of its own: " + method, !names.contains(method.getName()));
             }

@@ -5,26 +5,37 @@ final class Inside {
     private Inside() {
     }
 
-    static void setVolumes(CanalLocks locks, int... volumes) {
+    /** Whether the class holds its state where this class reaches for it. */
+    static boolean isKnown() {
+        try {
+            CanalLocks.class.getDeclaredField("now").getType().getDeclaredField("water").getType()
+                    .getDeclaredField("volumes");
+            return true;
+        } catch (NoSuchFieldException e) {
+            return false;
+        }
+    }
+
+    static void setVolumes(Locks locks, int... volumes) {
         System.arraycopy(volumes, 0, (int[]) partOf(locks, "water", "volumes"), 0, 5);
     }
 
-    static void setBasins(CanalLocks locks, int... basins) {
+    static void setBasins(Locks locks, int... basins) {
         System.arraycopy(basins, 0, (int[]) partOf(locks, "fleet", "basins"), 0, basins.length);
     }
 
-    static void setSpilled(CanalLocks locks, int litres) {
+    static void setSpilled(Locks locks, int litres) {
         try {
-            Object water = valueOf(valueOf(locks, "now"), "water");
+            Object water = valueOf(valueOf(Locks.behind(locks), "now"), "water");
             fieldOf(water, "spilled").setInt(water, litres);
         } catch (ReflectiveOperationException e) {
             throw new IllegalStateException(e);
         }
     }
 
-    private static Object partOf(CanalLocks locks, String part, String row) {
+    private static Object partOf(Locks locks, String part, String row) {
         try {
-            return valueOf(valueOf(valueOf(locks, "now"), part), row);
+            return valueOf(valueOf(valueOf(Locks.behind(locks), "now"), part), row);
         } catch (ReflectiveOperationException e) {
             throw new IllegalStateException(e);
         }

