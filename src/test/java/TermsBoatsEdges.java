@@ -275,6 +275,7 @@ final class TermsBoatsEdges {
         lastGate.advance(1);
         Check.same("and free a minute later", "3", Scenes.basinsOf(lastGate));
         roomInOneMinute();
+        levelOfTheMinute();
     }
 
     /** Room counts when the boat is considered: who goes on later in the minute still takes it. */
@@ -292,6 +293,41 @@ final class TermsBoatsEdges {
             Check.same("before or after the green one, " + ahead, order == 0 ? "2 1 1" : "2 1 0",
                     Scenes.basinsOf(locks));
         }
+        Locks elsewhere = Scenes.open();
+        elsewhere.shutGate(1);
+        elsewhere.addBoat('b', 1, true);
+        elsewhere.addBoat('b', 1, true);
+        elsewhere.advance(3);
+        elsewhere.addBoat('r', 1, false);
+        elsewhere.addBoat('g', 1, true);
+        elsewhere.advance(1);
+        Check.same("a boat at another gate makes no room", "1 1 3 0", Scenes.basinsOf(elsewhere));
+    }
+
+    /** The water of the same minute counts: rain and flow come before the boats. */
+    private static void levelOfTheMinute() {
+        for (int draught = 1; draught <= 3; draught++) {
+            Locks rising = Scenes.dry();
+            rising.setRain(2);
+            rising.addBoat('g', draught, true);
+            int minutes = 0;
+            while (minutes < 100 && rising.basinOf(0) == 0) {
+                rising.advance(1);
+                minutes++;
+                Check.same("minute " + minutes, rising.volume(1) >= 6 * draught ? 1 : 0,
+                        rising.basinOf(0));
+            }
+            Check.holds("it had to wait", minutes > 1 && minutes < 100);
+        }
+        // 54 litres carry a draught of 9: basin 3 has 55, but 51 at the end of the next minute's flow.
+        Locks falling = Scenes.lowered(false, 3, 37, 0);
+        falling.openGate(3);
+        falling.setDrain(9);
+        Check.same("now", "55 90 true", falling.volume(3) + " " + falling.volume(4) + " "
+                + falling.floats(0, 3));
+        falling.advance(1);
+        Check.same("then", "51 85 4", falling.volume(3) + " " + falling.volume(4) + " "
+                + falling.basinOf(0));
     }
 
     private static void draughts() {
